@@ -2,7 +2,6 @@ import java.util.Random;
 
 /** Runs of mixed calls, each answered both by the class and by the document's words taken one by one. */
 public final class ReferenceTest {
-    private static final int[] SIZES = {1, 2, 4, 8, 16, 32, 64, 128, 256, 512, 1024};
     private static final int[] PRIMES = {3, 5, 7, 17, 41, 73, 97, 193, 257, 769, 7681, 12289, 40961, 65537, 786433,
         7340033, 167772161, 469762049, 754974721, 998244353, 999999937, 1000000007};
     private static final int[] ODD_INTS = {Integer.MIN_VALUE, -1, 0, 1, 2, 3, 9, 15, 1000, 1023, 1024, 1025, 2048,
@@ -13,8 +12,8 @@ public final class ReferenceTest {
 
     public static void main(String[] args) {
         everySizeOfEveryPrime();
-        everySmallPrime();
-        for (int seed = 1; seed <= 60; seed++) {
+        rootsOfManyPrimes();
+        for (int seed = 1; seed <= 200; seed++) {
             mixedRun(new Random(seed), seed);
         }
         check.end();
@@ -22,42 +21,40 @@ public final class ReferenceTest {
 
     private static void everySizeOfEveryPrime() {
         Random random = new Random(7);
-        ResidueTransforms x = new ResidueTransforms();
-        Reference y = new Reference();
         for (int p : PRIMES) {
-            for (int n : SIZES) {
-                String name = "(" + n + ", " + p + ")";
-                fill(x, y, random, n);
-                check.due("root" + name, x.root(n, p), y.root(n, p));
-                check.due("transform" + name, x.transform(n, p, false), y.transform(n, p, false));
-                compareRows("transform" + name, x, y);
-                fill(x, y, random, n);
-                check.due("back" + name, x.transform(n, p, true), y.transform(n, p, true));
-                compareRows("back" + name, x, y);
+            for (int n : Inputs.SIZES) {
+                for (boolean back : new boolean[] {false, true}) {
+                    String name = "transform(" + n + ", " + p + ", " + back + ")";
+                    Subject x = new Subject();
+                    Reference y = new Reference();
+                    fill(x, y, random, n);
+                    check.due(name, x.transform(n, p, back), y.transform(n, p, back));
+                    compare(name, x, y, random);
+                }
             }
         }
     }
 
-    private static void everySmallPrime() {
-        ResidueTransforms x = new ResidueTransforms();
+    private static void rootsOfManyPrimes() {
         Reference y = new Reference();
         for (int p = -5; p < 20000; p++) {
+            Subject x = new Subject();
             for (int n = 1; n <= 1024; n *= 4) {
                 check.due("root(" + n + ", " + p + ")", x.root(n, p), y.root(n, p));
             }
-            check.due("times(0, " + p + ")", x.times(0, p), y.times(0, p));
         }
         for (int p = 999999000; p < 1000000100; p++) {
+            Subject x = new Subject();
             check.due("root(2, " + p + ")", x.root(2, p), y.root(2, p));
-            check.due("times(0, " + p + ")", x.times(0, p), y.times(0, p));
+            check.due("root(8, " + p + ")", x.root(8, p), y.root(8, p));
         }
     }
 
     private static void mixedRun(Random random, int seed) {
-        ResidueTransforms x = new ResidueTransforms();
+        Subject x = new Subject();
         Reference y = new Reference();
-        for (int call = 0; call < 200; call++) {
-            int n = random.nextInt(6) == 0 ? pick(ODD_INTS, random) : SIZES[random.nextInt(8)];
+        for (int call = 0; call < 80; call++) {
+            int n = random.nextInt(6) == 0 ? pick(ODD_INTS, random) : Inputs.SIZES[random.nextInt(8)];
             int p = random.nextInt(8) == 0 ? pick(ODD_INTS, random) : pick(PRIMES, random);
             boolean back = random.nextBoolean();
             long v = number(random);
@@ -69,22 +66,38 @@ public final class ReferenceTest {
                 case 3 -> check.due(name + "root", x.root(n, p), y.root(n, p));
                 default -> check.due(name + "put", x.put(n - 1, v), y.put(n - 1, v));
             }
-            compareRows(name, x, y);
+            compareAt(name, x, y, 0);
+            compareAt(name, x, y, n - 1);
+            compareAt(name, x, y, random.nextInt(256));
         }
+        compare("run " + seed, x, y, random);
     }
 
-    private static void fill(ResidueTransforms x, Reference y, Random random, int n) {
-        for (int k = 0; k < n; k++) {
+    /** Numbers for the first and the last of n places and for at most some 250 between them. */
+    private static void fill(Subject x, Reference y, Random random, int n) {
+        for (int k = 0; k < n; k += 1 + random.nextInt(1 + n / 128)) {
             long v = number(random);
             x.put(k, v);
             y.put(k, v);
         }
+        x.put(n - 1, -n);
+        y.put(n - 1, -n);
     }
 
-    private static void compareRows(String after, ResidueTransforms x, Reference y) {
-        for (int k = -1; k <= 1024; k++) {
-            check.due(after + ", get(" + k + ")", x.get(k), y.get(k));
+    /** The first and the last places, and from there on as many as the object's calls allow. */
+    private static void compare(String after, Subject x, Reference y, Random random) {
+        for (int k = -1; k < 64; k++) {
+            compareAt(after, x, y, k);
         }
+        compareAt(after, x, y, 1023);
+        compareAt(after, x, y, 1024);
+        while (x.calls() < Subject.MOST_CALLS) {
+            compareAt(after, x, y, random.nextInt(1024));
+        }
+    }
+
+    private static void compareAt(String after, Subject x, Reference y, int k) {
+        check.due(after + ", get(" + k + ")", x.get(k), y.get(k));
     }
 
     private static long number(Random random) {
