@@ -32,7 +32,37 @@ public final class FaceTest {
         check.due("members are those of the document, " + seen, seen.equals(FACE), true);
         check.due("class is public", Modifier.isPublic(face.getModifiers()), true);
         check.due("class is final", Modifier.isFinal(face.getModifiers()), true);
+        nothingIsInherited(check, face);
+        nestedClassesAreHidden(check, face);
+        privateMethodsHaveNamesOfTheirOwn(check, face);
         check.end();
+    }
+
+    /** What a class above it or an interface declares would be seen too, though the class does not declare it. */
+    private static void nothingIsInherited(Check check, Class<?> face) {
+        check.due("class above it is Object", face.getSuperclass() == Object.class, true);
+        check.due("interfaces", face.getInterfaces().length, 0);
+        check.due("type parameters", face.getTypeParameters().length, 0);
+        check.due("package name's length", face.getPackageName().length(), 0);
+    }
+
+    private static void nestedClassesAreHidden(Check check, Class<?> face) {
+        for (Class<?> nested : face.getDeclaredClasses()) {
+            int modifiers = nested.getModifiers();
+            boolean hidden = !Modifier.isPublic(modifiers) && !Modifier.isProtected(modifiers);
+            check.due(nested + " is hidden", hidden, true);
+            check.due(nested + " is static", Modifier.isStatic(modifiers), true);
+        }
+    }
+
+    private static void privateMethodsHaveNamesOfTheirOwn(Check check, Class<?> face) {
+        for (Method m : face.getDeclaredMethods()) {
+            for (Method other : face.getDeclaredMethods()) {
+                boolean mixed = m.getName().equals(other.getName())
+                    && Modifier.isPrivate(m.getModifiers()) && !Modifier.isPrivate(other.getModifiers());
+                check.due("private " + m.getName() + " bears a public name", mixed, false);
+            }
+        }
     }
 
     private static void addUnlessPrivate(Set<String> seen, int modifiers, String member) {
